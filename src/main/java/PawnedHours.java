@@ -1053,6 +1053,7 @@ public final class PawnedHours {
         /** Where tokens start and end; behind the last one stands an empty one at the text's length. */
         private final int[] starts = new int[TAPE_ROOM + 1];
         private final int[] ends = new int[TAPE_ROOM + 1];
+        private final int[] kinds = new int[TAPE_ROOM + 1];
         private int lastToken;
         private int token;
         private int parts;
@@ -1100,6 +1101,7 @@ public final class PawnedHours {
                 int kind = kindOfByte(bytes[i]);
                 if (bytes[i] != ' ' && (kind == SIGN || kind != before)) {
                     starts[lastToken] = i;
+                    kinds[lastToken] = kind;
                     lastToken++;
                 }
                 if (bytes[i] != ' ') {
@@ -1109,6 +1111,7 @@ public final class PawnedHours {
             }
             starts[lastToken] = length;
             ends[lastToken] = length;
+            kinds[lastToken] = SIGN;
         }
 
         private static int kindOfByte(int b) {
@@ -1151,7 +1154,7 @@ public final class PawnedHours {
         }
 
         private boolean isNumber() {
-            return fault == NONE && token < lastToken && kindOfByte(bytes[starts[token]]) == DIGIT;
+            return fault == NONE && kinds[token] == DIGIT;
         }
 
         /** The number here; 0 with a fault, if there is none from least to most. */
@@ -1249,7 +1252,8 @@ public final class PawnedHours {
             if (says("(")) {
                 open();
                 readTest();
-                close(")");
+                brackets--;
+                expect(")");
             } else {
                 readSum();
                 int kind = comparisonHere();
@@ -1299,31 +1303,26 @@ public final class PawnedHours {
             if (says("[")) {
                 open();
                 readSum();
-                close("]");
+                brackets--;
+                expect("]");
                 return;
             }
             parts++;
-            if (parts > PARTS) {
+            boolean isNumber = isNumber();
+            int word = isNumber ? NONE : readsOrders ? wordOfOrders() : wordOfLaw();
+            if (parts > PARTS || !isNumber && word == NONE) {
                 fail();
-            } else if (isNumber()) {
+            } else if (isNumber) {
                 add(Machine.NUMBER, readNumber(0, MOST_NUMBER));
-            } else if (readsOrders && says("knows")) {
-                advance();
-                int person = readNumber(0, PEOPLE - 1);
-                add(Machine.KNOWS, person * FACTS + readNumber(0, FACTS - 1));
             } else {
-                readWord();
+                advance();
+                int person = readsOrders && word >= Runner.PURSE ? readNumber(0, PEOPLE - 1) : 0;
+                if (readsOrders && word == Runner.KNOWN) {
+                    add(Machine.KNOWS, person * FACTS + readNumber(0, FACTS - 1));
+                } else {
+                    add(Machine.WORD, word + person);
+                }
             }
-        }
-
-        private void readWord() {
-            boolean namesPerson = readsOrders && (says("purse") || says("held"));
-            int word = readsOrders ? wordOfOrders() : wordOfLaw();
-            if (word == NONE) {
-                fail();
-            }
-            advance();
-            add(Machine.WORD, namesPerson ? word + readNumber(0, PEOPLE - 1) : word);
         }
 
         /** In the row in which a street describes an hour. */
@@ -1368,7 +1367,10 @@ public final class PawnedHours {
             if (says("purse")) {
                 return Runner.PURSE;
             }
-            return says("held") ? Runner.HOW_MANY_HELD : NONE;
+            if (says("held")) {
+                return Runner.HOW_MANY_HELD;
+            }
+            return says("knows") ? Runner.KNOWN : NONE;
         }
 
         private void open() {
@@ -1378,11 +1380,6 @@ public final class PawnedHours {
             } else {
                 advance();
             }
-        }
-
-        private void close(String sign) {
-            brackets--;
-            expect(sign);
         }
 
         private void add(int kind, int argument) {
