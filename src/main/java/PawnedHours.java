@@ -1678,9 +1678,14 @@ public final class PawnedHours {
             int hour = open - 1;
             search(hour, hours, lentNow, worth);
             int more = hours | 1 << hour;
-            if (Street.hasBit(allowed, hour) && (street.knownWithout(person, more) & mustKnow) == mustKnow) {
-                search(hour, more, lentNow + lent[hour], worth + street.worths[placeOf(person, hour)]);
+            int place = placeOf(person, hour);
+            if (Street.hasBit(allowed, hour) && (street.facts[place] == NONE || leavesKnown(more))) {
+                search(hour, more, lentNow + lent[hour], worth + street.worths[place]);
             }
+        }
+
+        private boolean leavesKnown(int gone) {
+            return mustKnow == 0 || (street.knownWithout(person, gone) & mustKnow) == mustKnow;
         }
     }
 
