@@ -38,6 +38,8 @@ public final class PlansTest {
             "raise 0 907 0 1 = 1024", "raise 0 907 0 2 = 999", "raise 0 900 0 0 = 1", "raise 0 1000 0 1 = 80",
             "raise 0 1000 0 2 = 1014", "raise 0 5562 0 1 = 2046", "raise 0 5569 0 1 = 2047", "raise 0 5570 0 1 = -1",
             "put 0 10 2 9 = 1", "raise 0 908 0 1 = 48", "put 0 5 2 0 = 1", "raise 0 1000 0 1 = 96");
+        Check.law(x, "lends 1000", 1);
+        Check.run(x, "force 1 = 0", "raise 0 9999 0 2 = 10989", "raise 0 9999 0 0 = 11", "raise 0 9999 0 1 = 3071");
     }
 
     private static void cheapest() {

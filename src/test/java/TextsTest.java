@@ -59,13 +59,13 @@ public final class TextsTest {
 
     private static void lawFaults() {
         String[] texts = {
-            "^", "   ^", "lends^", "lends   ^", "^lend 1", "^lendss 1", "^1", "^;", "^if 1=1", "^Lends 1", "^pass",
+            "^", "   ^", "lends^", "lends   ^", "^lend 1", "^lendss 1", "^lendsz 1", "^lendsa 1", "^zlends 1", "^1", "^;", "^if 1=1", "^Lends 1", "^pass",
             "lends 1", "  lends  1  ", "lends1", "lends 1;^", "lends 1; ^", "lends 1 ;^;bars",
             "lends 1 ^2", "lends ^+", "lends 1 + ^", "lends 1 + ^+ 1", "lends ^-1", "lends ^(1)", "lends [1]",
             "lends [1^", "lends [1^)", "lends [^]", "lends 1^]", "lends 1 ^= 1", "lends 1 ^times 2", "lends ^now",
             "lends ^purse 0", "lends ^if 1 = 1", "lends 1000", "lends ^1001", "lends 0001000", "lends ^00001001",
             "lends ^99999999999999999999", "lends 00000000000000000000000000007", "lends 1^a", "lends 1^lends",
-            "lends 1*^/2", "lends 1^\t", "lends 1^\u0000", "lends 1^\u00ff", "lends 1^.5", "lends ^'", "lends 1 ^A",
+            "lends 1*^/2", "lends 1^\t", "lends 1^\u0000", "lends 1^\u00ff", "lends 1^.5", "lends 1^{", "lends 1^`", "lends 1^:", "lends 90", "lends 09", "lends ^'", "lends 1 ^A",
             "bars", "bars ^3", "bars if 1 = 1", "bars if^", "bars if ^;", "bars if 1^", "bars if 1 <^", "bars if 1 <^= 2",
             "bars if 1 < 2 ^< 3", "bars if (1 < 2)", "bars if (1 < 2^", "bars if (1 < 2^]", "bars if ^)", "bars if (1^)",
             "bars if ([1] = 1)", "bars if [1^= 1]", "bars if [1 ^= 1]", "bars if not 1 = 1",
@@ -138,6 +138,17 @@ public final class TextsTest {
         faulty(false, "lends " + "0".repeat(394));
         faulty(false, "lends 1;^" + ";".repeat(392));
         faulty(false, "lends " + "[".repeat(8) + "^" + "[".repeat(386));
+        faulty(false, "^" + ";".repeat(400));
+        faulty(true, "pass^" + "(".repeat(396));
+        // No text leaves anything behind for the next one.
+        PawnedHours x = new PawnedHours();
+        Check.law(x, "lends " + "[".repeat(7) + "1" + "+1".repeat(48) + "+;", -6);
+        Check.law(x, "lends " + "[".repeat(8) + "1" + "]".repeat(8) + "+1".repeat(49), 0);
+        Check.law(x, "bars" + ";bars".repeat(12), -6);
+        Check.law(x, "bars" + ";bars".repeat(11), 1);
+        Check.law(x, "lends 5 if 1 = 2 or ?", -6);
+        Check.law(x, "lends 5", 2);
+        Check.run(x, "person = 0", "force 2 = -1", "hour 0 0 6 = 5");
     }
 
     /** What a new hour of person 0 lends by a sum; its worth 1 if the sum is broken. */
@@ -199,6 +210,8 @@ public final class TextsTest {
         bars("not 2 = 1", 1);
         bars("not not 2 = 1", 0);
         bars("not not not 2 = 1", 1);
+        bars("not (not 1 = 1)", 1);
+        bars("not (not 1 = 2)", 0);
         bars("not 1 = 1 or 1 = 1", 1);
         bars("not (1 = 1 or 1 = 1)", 0);
         bars("1 = 1 or 1 = 1 and 1 = 2", 1);
