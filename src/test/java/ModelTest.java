@@ -11,12 +11,15 @@ public final class ModelTest {
     private final Model model = new Model();
     private final List<String> told = new ArrayList<>();
     private final int wildness;
+    /** Some runs keep to few hours, so that more is known of one another and all that is pawned can be redeemed. */
+    private final int lastHour;
     private int calls = 0;
     private boolean wrong = false;
 
     private ModelTest(long seed) {
         random = new Random(seed);
         wildness = random.nextInt(3) == 0 ? 8 : 60;
+        lastHour = random.nextBoolean() ? 11 : 1 + random.nextInt(5);
     }
 
     public static void main(String[] args) {
@@ -41,7 +44,7 @@ public final class ModelTest {
         }
         for (int i = 0; i < people * 5 && random.nextInt(40) != 0; i++) {
             int person = upTo(people - 1);
-            int hour = upTo(5);
+            int hour = upTo(Math.min(5, lastHour));
             ask("put", person, hour, 0, upTo(4));
             ask("put", person, hour, 1, random.nextInt(1 << people) & ~(1 << person));
         }
@@ -92,8 +95,8 @@ public final class ModelTest {
     private void step() {
         switch (random.nextInt(40)) {
             case 0 -> ask("person");
-            case 1, 2 -> ask("put", somebody(), some(0, 11), 0, some(-1, 7));
-            case 3 -> ask("put", somebody(), some(0, 11), 2, some(0, 99));
+            case 1, 2 -> ask("put", somebody(), some(0, lastHour), 0, some(-1, 7));
+            case 3 -> ask("put", somebody(), some(0, lastHour), 2, some(0, 99));
             case 4, 5 -> putWith();
             case 6 -> ask("give", somebody(), random.nextInt(4) == 0 ? some(99_000, 99_999) : some(0, 200));
             case 7 -> ask("needs", some(0, 7), some(-1, 7));
@@ -102,10 +105,10 @@ public final class ModelTest {
             case 10, 11, 12 -> text("law", new Writer(random, false).write());
             case 13, 14, 15, 16, 17 -> text("orders", new Writer(random, true).write());
             case 18 -> ask("force", random.nextInt(4) == 0 ? some(-1, 5) : some(-1, model.now.laws.size() - 1));
-            case 19, 20, 21, 22, 23 -> ask("pawn", somebody(), some(0, 11));
+            case 19, 20, 21, 22, 23 -> ask("pawn", somebody(), some(0, lastHour));
             case 24, 25 -> redeem();
             case 26, 27, 28 -> pass();
-            case 29 -> ask("auction", somebody(), some(0, 11));
+            case 29 -> ask("auction", somebody(), some(0, lastHour));
             case 30 -> undo();
             case 31, 32 -> ask("bid", somebody(), some(0, 3), random.nextInt(2) == 0 ? some(0, 4) : some(0, 999));
             case 33 -> ask("years", some(0, 1_000_000), some(1, 60));
@@ -124,7 +127,7 @@ public final class ModelTest {
 
     private void putWith() {
         int person = somebody();
-        int hour = some(0, 11);
+        int hour = some(0, lastHour);
         int with = somePeople() & (random.nextInt(wildness) == 0 || person < 0 || person > 5 ? -1 : ~(1 << person));
         ask("put", person, hour, random.nextInt(wildness) == 0 ? some(0, 2) : 1, with);
     }
@@ -163,7 +166,7 @@ public final class ModelTest {
 
     private void redeem() {
         int person = somebody();
-        int hour = some(0, 11);
+        int hour = some(0, lastHour);
         for (int i = 0; i < 12; i++) {
             if (person >= 0 && person < model.now.people.size() && model.now.people.get(person).hours[i].state == 1) {
                 hour = i;
@@ -186,14 +189,14 @@ public final class ModelTest {
 
     private void question() {
         switch (random.nextInt(17)) {
-            case 0, 1 -> ask("hour", somebody(), some(0, 11), some(0, 8));
+            case 0, 1 -> ask("hour", somebody(), some(0, lastHour), some(0, 8));
             case 2, 3 -> ask("of", somebody(), some(0, 4));
             case 4 -> ask("met", somebody(), somebody(), some(0, 8));
             case 5 -> ask("learned", somebody(), some(0, 7));
             case 6 -> ask("deep", some(1, 3));
             case 7 -> ask("lies", some(-1, 20));
             case 8 -> ask("forged", some(-1, 11));
-            case 9 -> ask("stray", some(0, 11), somePeople());
+            case 9 -> ask("stray", some(0, lastHour), somePeople());
             case 10, 11 -> ask("raise", somebody(), random.nextInt(4) == 0 ? some(0, 9999) : some(0, 60),
                     random.nextInt(3) == 0 ? 0 : some(0, 255), some(0, 2));
             case 12 -> ask("cheapest", somebody(), some(-1, 6));
