@@ -6,6 +6,14 @@ final class Check {
     private Check() {
     }
 
+    static int asked() {
+        return asked;
+    }
+
+    static int wrong() {
+        return wrong;
+    }
+
     static void due(String call, long got, long want) {
         asked++;
         if (got != want) {
