@@ -110,6 +110,17 @@ public final class CompanyEdgesTest {
                 // Two of them were not with one another: that is in each one's hour of learning.
                 Check.run(six, "put 4 11 1 15 = 47", "deep 1 = 16", "deep 2 = 0", "deep 3 = 0", "put 4 11 1 47 = 15", "deep 3 = 16",
                     "pawn 5 11 = 1", "deep 1 = 0", "deep 2 = 0", "deep 3 = 0");
+                // What one alone does not know, whoever that is; what one alone is not known to know.
+                for (int person = 0; person < 6; person++) {
+                    PawnedHours x = Check.withPeople(6);
+                    gather(x, 0, 63);
+                    gather(x, 1, 63 & ~(2 << person % 5));
+                    for (int other = 0; other < 6; other++) {
+                        x.put(other, other == person ? 1 : 0, 0, 0);
+                    }
+                    Check.run(x, "deep 1 = 1", "deep 2 = 0", "deep 3 = 0", "put " + person + " 0 0 0 = -1", "deep 2 = 1", "deep 3 = 1",
+                        "put " + person + " 0 0 -1 = 0", "put " + person + " 1 0 -1 = 0", "deep 1 = 0");
+                }
                 // Each learned it in an hour of one's own, in which all the others were with that one, but not all with each other.
                 PawnedHours three = Check.withPeople(3);
                 Check.run(three, "put 0 0 0 1 = -1", "put 1 1 0 1 = -1", "put 2 2 0 1 = -1", "put 0 0 1 6 = 0", "put 1 0 1 1 = 0",
@@ -169,6 +180,14 @@ public final class CompanyEdgesTest {
                 PawnedHours z = Check.withPeople(6);
                 Check.run(z, "forged -1 = 0", "forged 0 = 0", "put 5 0 1 16 = 0", "forged 0 = 16", "put 4 11 1 32 = 0",
                     "forged 11 = 16", "forged -1 = 2");
+                for (int who = 0; who < 6; who++) {
+                    for (int whom = 0; whom < 6; whom++) {
+                        PawnedHours w = Check.withPeople(6);
+                        w.put(who, 3, 1, 1 << whom);
+                        Check.due(who + " of " + whom, w.forged(3), who == whom ? 0 : 1 << Math.min(who, whom));
+                        Check.due(who + " of " + whom, w.lies(0), who == whom ? -1 : 108 + who * 6 + whom);
+                    }
+                }
                 // A row of three lies: 0 and 2, 1 and 2, 1 and 3 would do.
                 PawnedHours row = Check.withPeople(4);
                 Check.run(row, "put 0 0 1 2 = 0", "put 1 0 1 4 = 0", "put 2 0 1 8 = 0", "forged 0 = 5", "forged -1 = 2");
@@ -188,6 +207,19 @@ public final class CompanyEdgesTest {
                 Check.run(x, "stray 5 0 = 0", "pawn 0 5 = 1", "stray 5 0 = 1", "stray 5 1 = 0", "stray 5 2 = 0", "put 1 5 1 1 = 0",
                     "pawn 0 5 = -3", "stray 5 2 = 1", "stray 5 0 = 0", "stray 5 6 = 0", "put 2 5 1 1 = 0", "stray 5 6 = 1",
                     "stray 5 2 = 0");
+                // Each holder counts, whoever that is.
+                for (int owner = 0; owner < 4; owner++) {
+                    PawnedHours y = Check.withPeople(4);
+                    y.pawn(owner, 0);
+                    for (int other = 0; other < 4; other++) {
+                        if (other != owner) {
+                            Check.due("stray of " + owner + " but for " + other, y.stray(0, 1 << other), 0);
+                            Check.due("put", y.put(other, 0, 1, 1 << owner), 0);
+                            Check.due("stray of " + owner + " with " + other, y.stray(0, 1 << other), 1 << owner);
+                            Check.due("put", y.put(other, 0, 1, 0), 1 << owner);
+                        }
+                    }
+                }
                 // One who does not hold it may be told or not.
                 Check.run(x, "pawn 3 5 = 1", "stray 5 6 = 1", "stray 5 14 = 1", "stray 5 0 = 8", "stray 5 1 = 8", "stray 5 9 = 0");
                 // Lost ones are not held either; without any holder all fit who are not among those told.

@@ -38,6 +38,10 @@ public final class PlansEdgesTest {
                     "raise 0 202 0 0 = 4", "raise 0 203 0 0 = 11", "raise 0 203 0 1 = 14", "raise 0 203 0 2 = 300");
                 Check.law(y, "bars", 1);
                 Check.run(y, "force 1 = 0", "raise 0 0 0 1 = 0", "raise 0 1 0 1 = -1");
+                // Each one by one's own hours.
+                PawnedHours z = Check.withPeople(6);
+                Check.run(z, "put 5 11 2 99 = 1", "put 0 0 2 50 = 1", "raise 5 99 0 1 = 2048", "raise 5 110 0 1 = 4095",
+                    "raise 5 111 0 1 = -1", "raise 0 50 0 1 = 1", "raise 0 62 0 1 = -1", "raise 4 12 0 1 = 4095", "raise 5 99 0 0 = 99");
             });
         Edge.of("all told FACTS that one KNOWS now are KNOWN yet", () -> {
             PawnedHours x = Check.withPeople(1);
@@ -91,6 +95,16 @@ public final class PlansEdgesTest {
             // The sixty days are those of all together.
             Check.run(x, "pawn 0 1 = 1", "give 0 0 = 1", "force 1 = 0", "cheapest 0 -1 = 60", "cheapest 0 0 = 0", "cheapest 0 1 = 1",
                 "force 2 = 1", "cheapest 0 -1 = -1", "give 0 1 = 0", "cheapest 0 -1 = 61");
+            // Six, the last one on the last day.
+            PawnedHours six = Check.withPeople(6);
+            Check.law(six, "costs 10", 0);
+            Check.law(six, "costs 10;costs 11 if hour=11", 1);
+            Check.run(six, "terms 1 1 = 5");
+            for (int hour = 6; hour < 12; hour++) {
+                Check.due("pawn", six.pawn(5, hour), 1);
+            }
+            Check.run(six, "give 5 0 = 6", "force 0 = -1", "cheapest 5 -1 = 60", "cheapest 5 0 = 6", "cheapest 5 5 = 11", "force 1 = 0",
+                "cheapest 5 -1 = -1", "give 5 1 = 0", "cheapest 5 -1 = 61");
             // Both on one day, with no income at all.
             Check.run(x, "terms 1 0 = 1", "force 1 = 2", "give 0 60 = 1", "cheapest 0 -1 = 60", "give 0 59 = 60", "cheapest 0 -1 = -1");
             // Today and the days since go on behind 999.

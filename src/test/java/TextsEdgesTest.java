@@ -7,6 +7,8 @@ public final class TextsEdgesTest {
         broken();
         laws();
         whatLawsTell();
+        words();
+        textsAlone();
         ordersAsRead();
         ordersAsRun();
         ordersThatCannotBe();
@@ -60,6 +62,8 @@ public final class TextsEdgesTest {
             lawFault("lends " + "0".repeat(393) + "7", -1);
             lawFault("lends 1" + " ".repeat(392) + "2", 399);
             lawFault("a".repeat(400), 0);
+            lawFault(";".repeat(400), 0);
+            lawFault("bars" + ";".repeat(396), 5);
         });
         Edge.of("TOKENS: longest rows of letters a .. z, of digits, single other bytes, any blanks (32) between.", () -> {
             lawFault("lends1", -1);
@@ -67,6 +71,10 @@ public final class TextsEdgesTest {
             lawFault("lends 1 0", 8);
             lawFault("lend s 1", 0);
             lawFault("lendsworth", 0);
+            lawFault("lendsz 1", 0);
+            lawFault("lendsa 1", 0);
+            lawFault("lends 09", -1);
+            lawFault("lends 90", -1);
             lawFault("lends wor th", 6);
             lawFault("  lends   [ 1 ]   ;   bars   ", -1);
             lawFault("lends\t1", 5);
@@ -205,6 +213,9 @@ public final class TextsEdgesTest {
                 holds("not 1000*1000*1000+1>0", 0);
                 holds("1/0=1/0", 0);
                 holds("not (not 1/0=1)", 0);
+            holds("not (not 1=1)", 1);
+            holds("not not not 1=2", 1);
+            holds("not not not 1=1", 0);
             });
         Edge.of("(\"or\", \"and\" ask what stands behind only if it can still matter)", () -> {
             holds("1=1 or 1/0=1", 1);
@@ -306,6 +317,56 @@ public final class TextsEdgesTest {
         });
     }
 
+    private static void words() {
+        Edge.of("Words: \"person\" | \"hour\" | \"fact\" | \"with\" | \"worth\" | \"loan\" | \"days\" | \"today\" | \"mood\".", () -> {
+            // The least and the most that each one can tell of what is lent, and behind the last day of what it costs.
+            PawnedHours x = Check.withPeople(6);
+            String[] words = {"person", "hour", "fact", "with", "worth", "mood"};
+            int[] most = {5, 11, 7, 5, 99, 9};
+            int[] least = {0, 0, -1, 0, 0, 0};
+            for (int i = 0; i < words.length; i++) {
+                Check.law(x, "lends 100+" + words[i], i);
+            }
+            Check.run(x, "put 5 11 0 7 = -1", "put 5 11 1 31 = 0", "put 5 11 2 99 = 1", "put 0 0 2 0 = 1");
+            for (int i = 0; i < words.length; i++) {
+                x.terms(4, 9);
+                x.force(i);
+                Check.due("the most " + words[i], x.hour(5, 11, 6), 100 + most[i]);
+                x.terms(4, 0);
+                Check.due("the least " + words[i], x.hour(0, 0, 6), 100 + least[i]);
+            }
+            PawnedHours y = Check.withPeople(1);
+            Check.law(y, "lends 1000;costs today;bars if today=999", 0);
+            Check.law(y, "costs days", 1);
+            Check.law(y, "costs loan", 2);
+            Check.run(y, "force 0 = -1", "pawn 0 0 = 999", "hour 0 0 7 = 0", "terms 0 999 = 0", "hour 0 0 7 = 999", "hour 0 1 8 = 1",
+                "force 1 = 0", "hour 0 0 7 = 999", "force 2 = 1", "hour 0 0 7 = 999");
+        });
+    }
+
+    private static void textsAlone() {
+        Edge.of("FAULT: the first TOKEN that can't go on there (the end's: the TEXT's length).", () -> {
+            // Nothing of an earlier text is left: neither its bytes behind the end, nor its parts, brackets, clauses.
+            PawnedHours x = Check.withPeople(1);
+            Check.law(x, "bars;bars", 0);
+            Check.law(x, "bars", 1);
+            Check.law(x, "lends 12", 2);
+            Check.law(x, "lends 1", 3);
+            Check.run(x, "force 3 = -1", "hour 0 0 6 = 1");
+            PawnedHours y = Check.withPeople(1);
+            Check.law(y, "lends " + "[".repeat(8) + "1" + "+1".repeat(49), -6);
+            Check.law(y, "lends " + "[".repeat(8) + "1" + "]".repeat(8) + "+1".repeat(49), 0);
+            Check.law(y, "bars;".repeat(12), -6);
+            Check.law(y, "lends 2;" + "bars;".repeat(10) + "lends 3", 1);
+            Check.law(y, "bars if (((((((1=1 or", -6);
+            Check.law(y, "lends 4 if ((((((((1=1))))))))", 2);
+            Check.run(y, "force 2 = -1", "hour 0 0 6 = 4", "hour 0 0 8 = 0", "force 1 = 2", "hour 0 0 6 = 3", "force 0 = 1", "hour 0 0 6 = 50");
+            // A text that is read stays as it was read, whatever is read behind it.
+            Check.orders(y, "pass if 1=2", 0);
+            Check.run(y, "hour 0 0 6 = 50", "force 2 = 0", "hour 0 0 6 = 4");
+        });
+    }
+
     private static void ordersAsRead() {
         Edge.of("TIMES: a NUMBER 1 .. 20.", () -> {
             ordersFault("pass times 1", -1);
@@ -316,6 +377,10 @@ public final class TextsEdgesTest {
             ordersFault("pass times now", 11);
             ordersFault("pass times -1", 11);
             ordersFault("pass times [1]", 11);
+            // Bytes that stand behind the digits are no numbers.
+            for (char sign = ':'; sign <= 'D'; sign++) {
+                ordersFault("pass times " + sign, 11);
+            }
             ordersFault("pass times 1+1", 12);
             PawnedHours x = new PawnedHours();
             Check.orders(x, "pass times 20", 20);
@@ -371,6 +436,20 @@ public final class TextsEdgesTest {
             Check.run(x, "force 0 = -1");
             Check.orders(x, "pawn 5 of 0;pass if last=0", 2);
         });
+        Edge.of("now: DAY", () -> {
+            PawnedHours x = Check.withPeople(1);
+            Check.run(x, "terms 0 997 = 0");
+            Check.orders(x, "pass if now=997;pass if now=998 and done=1;pass if now<999", 2);
+            Check.orders(x, "pawn now-999 of 0 if now=999 and done=0", 1);
+            Check.run(x, "hour 0 0 3 = 1");
+        });
+        Edge.of("purse: of a PERSON", () -> {
+            PawnedHours x = Check.withPeople(6);
+            Check.run(x, "give 5 99999 = 0", "give 0 3 = 0");
+            Check.orders(x, "pass if purse 0=3 and purse 1=0 and purse 5=1000*100-1", 1);
+            Check.orders(x, "pass if purse 0=8 and purse 1=5 and purse 5=1000*100-1;pass if purse 0=13 and purse 1=10;"
+                + "pawn 0 of 0 if purse 0=18;pass if purse 0=19 and purse 1=15;redeem 0 of 0;pass if purse 0=22 and purse 4=20", 6);
+        });
         Edge.of("held: how many HOURS are HELD (-1: no such)", () -> {
             PawnedHours x = Check.withPeople(2);
             Check.orders(x, "pass if held 0=12 and held 1=12 and held 2=0-1 and held 5=0-1", 1);
@@ -382,6 +461,8 @@ public final class TextsEdgesTest {
             Check.run(x, "put 1 3 0 7 = -1");
             Check.orders(x, "pass if knows 1 7=1 and knows 0 7=0 and knows 1 6=0 and knows 2 7=0-1 and knows 5 0=0-1", 1);
             Check.orders(x, "pawn 3 of 1;pass if knows 1 7=0", 2);
+            Check.run(x, "put 0 0 0 0 = -1", "put 0 11 0 5 = -1");
+            Check.orders(x, "pass if knows 0 0=1 and knows 0 5=1;pawn 0 of 0;pass if knows 0 0=0 and knows 0 5=1", 3);
         });
     }
 
@@ -402,6 +483,19 @@ public final class TextsEdgesTest {
                         "of 0 3 = 1", "hour 0 5 3 = 0", "hour 0 11 3 = 1", "hour 0 11 4 = 1", "hour 0 11 5 = 0", "count 4 = 1",
                         "undo = 0", "hour 0 11 3 = 0", "undo = -3");
                 }
+                // What could be undone ahead of it can be undone, though the orders went round the whole room for it.
+                PawnedHours y = Check.withPeople(2);
+                for (int i = 0; i < 16; i++) {
+                    Check.due("pawn", y.pawn(i / 12, i % 12), 1);
+                }
+                Check.orders(y, "pass times 20;pawn 4 of 1;pass times 17;pawn 4 of 1", -3);
+                Check.run(y, "count 4 = 16", "count 12 = 0", "of 0 0 = 12", "of 1 0 = 4");
+                for (int i = 15; i >= 0; i--) {
+                    Check.due("undo", y.undo(), 0);
+                    Check.due("the purse behind it", y.of(i / 12, 0), i % 12);
+                    Check.due("the hour behind it", y.hour(i / 12, i % 12, 3), 0);
+                }
+                Check.run(y, "undo = -3", "count 1 = 0");
             });
     }
 

@@ -78,6 +78,9 @@ public final class YearsEdgesTest {
                     "drawn 1 1 = 1", "drawn 1 2 = 4063", "drawn 1 0 = 6", "drawn 0 1 = 0", "drawn 0 0 = 5", "drawn 0 3 = -1",
                     "drawn 0 -1 = -1", "drawn 2 0 = -1", "drawn -1 0 = -1", "drawn 2147483647 0 = -1", "drawn 0 2147483647 = -1",
                     "of 1 4 = 129");
+                // What was learned in the first hour counts, as in all others.
+                PawnedHours y = Check.withPeople(1);
+                Check.run(y, "put 0 0 0 2 = -1", "put 0 11 0 7 = -1", "years 0 1 = 1", "drawn 0 1 = 132");
                 // A refused call leaves the latest ones; the next ones take their place.
                 Check.run(x, "years 0 0 = -1", "drawn 1 2 = 4063", "years -1 1 = -1", "drawn 1 0 = 6", "person = 2", "drawn 2 0 = -1",
                     "drawn 1 2 = 4063", "years 0 1 = 1", "drawn 2 0 = 5", "drawn 1 2 = 4095", "drawn 0 2 = 4063");
@@ -118,6 +121,19 @@ public final class YearsEdgesTest {
                 // Who comes behind it is somebody new.
                 Check.run(x, "person = 2", "of 2 0 = 0", "of 2 1 = 12", "bid 2 0 0 = 0", "hour 2 0 2 = 1");
             });
+        Edge.of("BACK to one all that it keeps is as it was then", () -> {
+            // The last hour of the last person, the last law, the last bid, the last fact.
+            PawnedHours x = Check.withPeople(6);
+            for (int law = 0; law < 6; law++) {
+                Check.law(x, "lends 20+" + law, law);
+            }
+            Check.run(x, "put 5 11 0 7 = -1", "put 5 11 1 31 = 0", "put 5 11 2 98 = 1", "force 5 = -1", "needs 7 0 = -1", "bid 5 3 999 = 0",
+                "give 5 9 = 0", "pawn 5 11 = 25", "terms 0 3 = 0", "image 0 = 0");
+            Check.run(x, "put 5 11 0 -1 = 7", "put 5 11 1 0 = 31", "put 5 11 2 1 = 98", "force 0 = 5", "needs 7 -1 = 0", "bid 5 3 0 = 999",
+                "redeem 5 11 = 28", "give 5 0 = 6", "pass = 4", "pawn 5 11 = 20", "back 0 = 0");
+            Check.run(x, "hour 5 11 0 = 7", "hour 5 11 1 = 31", "hour 5 11 2 = 98", "count 11 = 5", "hour 0 0 6 = 25", "needs 7 0 = 0",
+                "bid 5 3 999 = 999", "hour 5 11 3 = 1", "hour 5 11 4 = 25", "hour 5 11 5 = 3", "of 5 0 = 34", "count 12 = 3", "count 3 = 6");
+        });
         Edge.of("what can be undone (nothing, behind back())", () -> {
             PawnedHours x = Check.withPeople(1);
             Check.run(x, "pass = 1", "image 0 = 0", "count 4 = 1", "pass = 2", "count 4 = 2", "back 0 = 0", "count 4 = 0", "undo = -3",
