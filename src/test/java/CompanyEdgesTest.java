@@ -4,6 +4,7 @@ public final class CompanyEdgesTest {
         knows();
         metIn();
         met();
+        metByWhat();
         knowsOf();
         learned();
         deep();
@@ -73,6 +74,17 @@ public final class CompanyEdgesTest {
         });
     }
 
+    private static void metByWhat() {
+        Edge.of("HOURS in which two MET, as bits (what 0); whether the first KNOWS that the second KNOWS a FACT 0 .. 7 (1 + FACT: 1, 0).", () -> {
+            PawnedHours x = Check.withPeople(6);
+            gather(x, 0, 48);
+            gather(x, 11, 48);
+            Check.run(x, "met 4 5 0 = 2049", "met 5 4 0 = 2049", "met 0 5 0 = 0", "put 5 0 0 0 = -1", "put 5 11 0 7 = -1", "put 4 1 0 0 = -1",
+                "put 4 2 0 7 = -1", "met 4 5 1 = 1", "met 4 5 8 = 1", "met 5 4 1 = 0", "met 5 4 8 = 0", "met 4 5 2 = 0", "met 4 5 7 = 0",
+                "met 4 5 9 = -1", "met 4 5 -1 = -1");
+        });
+    }
+
     private static void knowsOf() {
         Edge.of("A KNOWS that B KNOWS a FACT, if both KNOW it, and they are the same, or MET in the HOUR in which B LEARNED it",
             () -> {
@@ -128,6 +140,28 @@ public final class CompanyEdgesTest {
                     "put 0 2 1 4 = 0", "deep 2 = 0", "put 1 2 1 4 = 0", "deep 1 = 2", "deep 2 = 2", "deep 3 = 0");
                 Check.run(three, "put 1 0 1 5 = 1", "put 2 0 1 3 = 1", "put 0 1 1 6 = 2", "put 2 1 1 3 = 2", "put 0 2 1 6 = 4",
                     "deep 3 = 0", "put 1 2 1 5 = 4", "deep 3 = 2");
+            });
+        Edge.of("that B KNOWS that C does, if A, B and C KNOW it, A (if not C) MET C, B (if not C) MET C, and A MET B (if they are not the same) in the HOUR in which C LEARNED it.",
+            () -> {
+                // C learns in hour 7, A and B ahead of it, in hours in which all met: each of the three meetings in hour 7 counts.
+                for (int c = 0; c < 3; c++) {
+                    PawnedHours x = Check.withPeople(3);
+                    int a = (c + 1) % 3;
+                    int b = (c + 2) % 3;
+                    gather(x, 1, 7);
+                    gather(x, 7, 7);
+                    x.put(a, 1, 0, 3);
+                    x.put(b, 1, 0, 3);
+                    Check.run(x, "deep 1 = 0", "put " + c + " 7 0 3 = -1", "deep 1 = 8", "deep 2 = 8", "deep 3 = 8");
+                    x.put(a, 7, 1, 1 << c);
+                    Check.run(x, "deep 1 = 8", "deep 2 = 8", "deep 3 = 0");
+                    x.put(a, 7, 1, 1 << b);
+                    Check.run(x, "deep 1 = 8", "deep 2 = 0", "deep 3 = 0");
+                    x.put(a, 7, 1, 1 << b | 1 << c);
+                    Check.run(x, "deep 3 = 8");
+                    x.pawn(b, 7);
+                    Check.run(x, "deep 1 = 8", "deep 2 = 0", "deep 3 = 0");
+                }
             });
         Edge.of("FACTS that are known DEEP 1 .. 3, as bits. NONE (no PEOPLE).", () -> {
             PawnedHours x = new PawnedHours();

@@ -5,6 +5,7 @@ public final class StreetEdgesTest {
         hours();
         firsts();
         limitsOfTerms();
+        reasons();
         firstReasonInOrder();
         put();
         hour();
@@ -120,6 +121,20 @@ public final class StreetEdgesTest {
         });
     }
 
+    private static void reasons() {
+        Edge.of("REFUSED by: -1 a number that can't be; -2 there is no such PERSON, LAW, IMAGE; -3 it can't be by what stands; -5 no room; -6 a TEXT, a ROW that can't be.",
+            () -> {
+                PawnedHours x = Check.withPeople(6);
+                Check.run(x, "terms 2 0 = -1", "count 6 = 1", "give 6 0 = -2", "force 0 = -2", "back 0 = -2", "count 7 = 3", "undo = -3",
+                    "redeem 0 0 = -3", "count 8 = 2", "person = -5", "count 9 = 1", "law = -6", "orders = -6", "row 0 = -6",
+                    "count 10 = 3", "count 6 = 1", "count 0 = 6");
+                // Whatever is refused leaves all as it was.
+                Check.run(x, "give 0 100000 = -1", "of 0 0 = 0", "put 0 0 2 100 = -1", "hour 0 0 2 = 1", "needs 0 8 = -1", "status = -1",
+                    "needs 0 -1 = -1", "status = 0", "bid 0 0 1000 = -1", "bid 0 0 0 = 0", "terms 1 100 = -1", "count 13 = 5");
+            });
+        Edge.of("`NONE = -1`: There is none.", () -> Check.due("NONE", PawnedHours.NONE, -1));
+    }
+
     /** Each call is wrong in two ways or more at once. */
     private static void firstReasonInOrder() {
         Edge.of("The first of these in that order.", () -> {
@@ -160,6 +175,13 @@ public final class StreetEdgesTest {
     }
 
     private static void hour() {
+        Edge.of("Of an HOUR LEARNED (what 0), WITH (1), WORTH (2), HELD .. LOST (3)", () -> {
+            PawnedHours x = Check.withPeople(6);
+            Check.run(x, "hour 5 11 0 = -1", "hour 5 11 1 = 0", "hour 5 11 2 = 1", "hour 5 11 3 = 0", "put 5 11 0 7 = -1", "put 5 11 1 31 = 0",
+                "put 5 11 2 99 = 1", "hour 5 11 0 = 7", "hour 5 11 1 = 31", "hour 5 11 2 = 99", "terms 2 1 = 9", "pawn 5 11 = 99",
+                "hour 5 11 3 = 1", "pass = 1", "auction 5 11 = 99", "hour 5 11 3 = 2", "hour 5 11 0 = 7", "hour 5 11 1 = 31",
+                "hour 5 11 2 = 99", "hour 5 10 2 = 1", "hour 4 11 3 = 0");
+        });
         Edge.of("LOAN (4), DAYS since (5; NONE both: not PAWNED)", () -> {
             PawnedHours x = Check.withPeople(1);
             Check.law(x, "lends 0", 0);
@@ -225,7 +247,7 @@ public final class StreetEdgesTest {
     }
 
     private static void terms() {
-        Edge.of("`int terms(int what, int value)`: A TERM: what it was.", () -> {
+        Edge.of("`int terms(int what, int value)`: A TERM: what it was. -1; -3", () -> {
             PawnedHours x = new PawnedHours();
             Check.run(x, "terms 0 1 = 0", "terms 1 2 = 5", "terms 2 3 = 9", "terms 3 4 = 3", "terms 4 5 = 0", "terms 5 0 = -1",
                 "status = -1", "terms -1 0 = -1", "terms 2147483647 0 = -1", "terms -2147483648 0 = -1", "count 12 = 1",

@@ -78,6 +78,24 @@ public final class TapeEdgesTest {
     }
 
     private static void rows() {
+        Edge.of("A ROW of a PERSON: the TAPE's bytes by threes, HOURS from 0 on", () -> {
+            PawnedHours x = Check.withPeople(6);
+            StringBuilder text = new StringBuilder();
+            for (int hour = 0; hour < 12; hour++) {
+                text.append(bytes(hour % 9, hour, 99 - hour));
+            }
+            Check.tape(x, text.toString());
+            Check.run(x, "row 5 = 12", "rain = 0");
+            for (int hour = 0; hour < 12; hour++) {
+                Check.due("learned in hour " + hour, x.hour(5, hour, 0), hour % 9 - 1);
+                Check.due("with in hour " + hour, x.hour(5, hour, 1), hour);
+                Check.due("worth of hour " + hour, x.hour(5, hour, 2), 99 - hour);
+                Check.due("worth of another one's hour " + hour, x.hour(4, hour, 2), 1);
+            }
+            // Hours behind the row stay as they were, and so does what is pawned.
+            Check.tape(x, bytes(0, 0, 7));
+            Check.run(x, "pawn 5 0 = 99", "row 5 = 1", "hour 5 0 2 = 7", "hour 5 0 3 = 1", "hour 5 0 4 = 99", "hour 5 1 2 = 98");
+        });
         Edge.of("LEARNED (0: NONE, else one more than the FACT), WITH (bits), WORTH", () -> {
             PawnedHours x = Check.withPeople(6);
             Check.run(x, "put 0 0 0 5 = -1");

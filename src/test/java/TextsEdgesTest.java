@@ -5,6 +5,8 @@ public final class TextsEdgesTest {
         limits();
         faults();
         broken();
+        joined();
+        clauses();
         laws();
         whatLawsTell();
         words();
@@ -231,6 +233,80 @@ public final class TextsEdgesTest {
             holds("1=1 or 1=1 and 1/0=1", 1);
             holds("(1=1 or 1/0=1) and 1=1", 1);
             holds("(1=1 or 1/0=1) and 1/0=1", 0);
+        });
+    }
+
+    private static void joined() {
+        Edge.of("TEST: BOTH {\"or\" BOTH}. BOTH: PLAIN {\"and\" PLAIN}. PLAIN: \"not\" PLAIN | \"(\" TEST \")\" | SUM (\"<\" | \">\" | \"=\") SUM.", () -> {
+            holds("1=1 or 1=1 and 1=2", 1);
+            holds("(1=1 or 1=1) and 1=2", 0);
+            holds("1=2 and 1=1 or 1=1", 1);
+            holds("1=2 and (1=1 or 1=1)", 0);
+            holds("1=2 or 1=2 or 1=1", 1);
+            holds("1=1 and 1=1 and 1=2", 0);
+            holds("not 1=2 and 1=2", 0);
+            holds("not (1=2 and 1=2)", 1);
+            holds("not 1=1 or 1=1", 1);
+            holds("not not 1=1", 1);
+            holds("1<2", 1);
+            holds("2<2", 0);
+            holds("2>1", 1);
+            holds("2>2", 0);
+            holds("2=2", 1);
+            holds("0-1<0", 1);
+            holds("0-1=1", 0);
+            holds("1+1=2*1", 1);
+        });
+        Edge.of("SUM: TERM {(\"+\" | \"-\") TERM}. TERM: PART {(\"*\" | \"/\" | \"%\") PART}. PART: NUMBER (to 1,000) | \"[\" SUM \"]\" | a word, as told.", () -> {
+            lends("10-3-2", 5);
+            lends("10-[3-2]", 9);
+            lends("2+3*4", 14);
+            lends("[2+3]*4", 20);
+            lends("100/10/2", 5);
+            lends("100/[10/2]", 20);
+            lends("100%7*2", 4);
+            lends("100*7%3", 1);
+            lends("2-3*0", 2);
+            lends("[[[worth]]]", 1);
+            lends("0", 0);
+            // The longest sums that can be.
+            lends("1" + "+1".repeat(49), 50);
+            lends("100" + "-1".repeat(49), 51);
+            lends("7" + "*1".repeat(49), 7);
+            lends("1+[1+[1+[1+[1+[1+[1+[1+[1]]]]]]]]", 9);
+        });
+    }
+
+    private static void clauses() {
+        Edge.of("CLAUSE: ((\"lends\" | \"costs\") SUM | \"bars\") [\"if\" TEST].", () -> {
+            lawFault("lends 1;costs 1;bars;lends 1 if 1=1;costs 1 if 1=1;bars if 1=1", -1);
+            lawFault("lends if 1=1", 6);
+            lawFault("costs", 5);
+            lawFault("costs bars", 6);
+            lawFault("bars 1", 5);
+            lawFault("if 1=1", 0);
+            lawFault("bars if 1=1 if 1=1", 12);
+            lawFault("lends 1 costs 1", 8);
+            lawFault("lends 1 of 1", 8);
+        });
+        Edge.of("CLAUSE: (\"pawn\" SUM \"of\" SUM | \"redeem\" SUM \"of\" SUM | \"pass\") [\"times\" TIMES] [\"if\" TEST]. (an HOUR, a PERSON; pass: a DAY.)", () -> {
+            ordersFault("pawn 1 of 0;redeem 1 of 0;pass;pawn 1 of 0 times 2;redeem 1 of 0 if 1=1;pass times 2 if 1=1", -1);
+            ordersFault("pawn of 0", 5);
+            ordersFault("pawn 1 of 0 of 0", 12);
+            ordersFault("redeem 1", 8);
+            ordersFault("redeem 1 of", 11);
+            ordersFault("pass 1", 5);
+            ordersFault("pass times 2 times 2", 13);
+            ordersFault("pass if 1=1 if 1=1", 12);
+            ordersFault("auction 1 of 0", 0);
+            ordersFault("times 2", 0);
+            // The first sum is the hour, the second one the person.
+            PawnedHours x = Check.withPeople(6);
+            Check.orders(x, "pawn 11 of 5;pawn 5 of 4", 2);
+            Check.run(x, "hour 5 11 3 = 1", "hour 4 5 3 = 1", "hour 5 4 3 = 0", "count 1 = 2");
+            Check.orders(x, "redeem 11 of 5;pass", 2);
+            Check.run(x, "hour 5 11 3 = 0", "hour 4 5 3 = 1", "count 12 = 1");
+            Check.orders(x, "pawn 5 of 11", -3);
         });
     }
 

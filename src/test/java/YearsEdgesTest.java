@@ -2,6 +2,7 @@
 public final class YearsEdgesTest {
     public static void main(String[] args) {
         draws();
+        eachDay();
         days();
         years();
         drawn();
@@ -10,6 +11,7 @@ public final class YearsEdgesTest {
         back();
         count();
         status();
+        calls();
         Check.end();
     }
 
@@ -34,6 +36,21 @@ public final class YearsEdgesTest {
                 }
                 Check.run(x, "years -1 1 = -1", "years 1000001 1 = -1", "years 0 0 = -1", "years 0 61 = -1", "years 0 60 = 33");
             });
+    }
+
+    private static void eachDay() {
+        Edge.of("Each DAY DRAWS of PEOPLE, of 12 (HOUR)", () -> {
+            // Of two people and twelve hours: 1 and 5, then 1 and 1, then 0 and 10.
+            long s = 0;
+            int[] due = {12345, 628841, 621889, 953857, 113460, 158350};
+            for (int i = 0; i < 6; i++) {
+                s = (s * 1103 + 12345) % 1_000_003;
+                Check.due("draw " + i, s, due[i]);
+            }
+            PawnedHours x = Check.withPeople(2);
+            Check.run(x, "years 0 1 = 1", "drawn 0 2 = 4095", "drawn 1 2 = 4063", "years 0 2 = 2", "drawn 0 2 = 4095", "drawn 1 2 = 4061",
+                "years 0 3 = 3", "drawn 0 2 = 3071", "drawn 1 2 = 4061", "drawn 1 0 = 17", "drawn 0 0 = 16");
+        });
     }
 
     private static void days() {
@@ -231,5 +248,17 @@ public final class YearsEdgesTest {
                     Check.run(x, "back 0 = -2", call, "status = -2", "pass = 1", call.startsWith("feed") ? "end 20 = 20" : call, "status = 0");
                 }
             });
+    }
+
+    private static void calls() {
+        Edge.of("An object is used for at most 512 calls after it has been made", () -> {
+            PawnedHours x = new PawnedHours();
+            x.person();
+            for (int call = 2; call <= 500; call++) {
+                Check.due("call " + call, x.pass(), call - 1);
+            }
+            Check.run(x, "of 0 0 = 2495", "image 1 = 0", "undo = 2", "count 12 = 498", "back 1 = 0", "count 12 = 499", "pawn 0 11 = 1",
+                "pass = 500", "hour 0 11 5 = 1", "redeem 0 11 = 2", "undo = 1", "status = 0");
+        });
     }
 }
