@@ -215,9 +215,9 @@ public final class TextsEdgesTest {
                 holds("not 1000*1000*1000+1>0", 0);
                 holds("1/0=1/0", 0);
                 holds("not (not 1/0=1)", 0);
-            holds("not (not 1=1)", 1);
-            holds("not not not 1=2", 1);
-            holds("not not not 1=1", 0);
+                holds("not (not 1=1)", 1);
+                holds("not not not 1=2", 1);
+                holds("not not not 1=1", 0);
             });
         Edge.of("(\"or\", \"and\" ask what stands behind only if it can still matter)", () -> {
             holds("1=1 or 1/0=1", 1);
@@ -440,6 +440,32 @@ public final class TextsEdgesTest {
             // A text that is read stays as it was read, whatever is read behind it.
             Check.orders(y, "pass if 1=2", 0);
             Check.run(y, "hour 0 0 6 = 50", "force 2 = 0", "hour 0 0 6 = 4");
+            // However much was read before: the longest texts, one behind the other.
+            PawnedHours z = Check.withPeople(1);
+            for (int i = 0; i < 16; i++) {
+                Check.orders(z, "pass if 1" + "+1".repeat(48) + "=49", 1);
+                Check.orders(z, "pass if 1" + "+1".repeat(49), -6);
+            }
+            Check.law(z, "lends 1" + "+1".repeat(49), 0);
+            Check.run(z, "force 0 = -1", "hour 0 0 6 = 50", "count 12 = 16");
+        });
+        Edge.of("The TAPE has its first n bytes alone: n.", () -> {
+            // What end() cuts off is no token of the text, though it was one of the text ahead of it.
+            PawnedHours x = Check.withPeople(1);
+            String[] texts = {"lends 5;bars", "lends 5*2", "lends 5 if 1=2", "lends 5+mood", "lends 55"};
+            for (int law = 0; law < texts.length; law++) {
+                PawnedHours y = Check.withPeople(1);
+                Check.law(y, texts[law], 0);
+                Check.tape(y, texts[law]);
+                Check.run(y, "end 7 = 7", "law = 1", "fault = -1", "force 1 = -1", "hour 0 0 6 = 5", "hour 0 0 8 = 0");
+            }
+            Check.orders(x, "pass times 2", 2);
+            Check.tape(x, "pass times 2");
+            Check.run(x, "end 10 = 10", "orders = -6", "fault = 10");
+            Check.tape(x, "pass times 20");
+            Check.run(x, "end 12 = 12", "orders = 2");
+            Check.tape(x, "pass if now=1");
+            Check.run(x, "end 4 = 4", "orders = 1", "end 4 = -1", "count 12 = 5");
         });
     }
 
@@ -487,6 +513,31 @@ public final class TextsEdgesTest {
     }
 
     private static void ordersAsRun() {
+        Edge.of("Words: \"now\" | \"done\" | \"last\" | \"purse\" P | \"held\" P | \"knows\" P F", () -> {
+            ordersFault("pass if now+done+last+purse 0+held 0+knows 0 0=0", -1);
+            ordersFault("pass if now 0=0", 12);
+            ordersFault("pass if done 0=0", 13);
+            ordersFault("pass if last 0=0", 13);
+            ordersFault("pass if purse=0", 13);
+            ordersFault("pass if held=0", 12);
+            ordersFault("pass if knows=0", 13);
+            ordersFault("pass if purse 0 0=0", 16);
+            ordersFault("pass if held 0 0=0", 15);
+            ordersFault("pass if knows 0 0 0=0", 18);
+            ordersFault("pass if today=0", 8);
+            ordersFault("pass if person=0", 8);
+            ordersFault("pass if know 0 0=0", 8);
+        });
+        Edge.of("Run CLAUSE by CLAUSE", () -> {
+            // Each one finds what the one ahead of it left; the last of twelve runs, too.
+            PawnedHours x = Check.withPeople(1);
+            Check.orders(x, "pawn 0 of 0;redeem 0 of 0;".repeat(5) + "pawn 0 of 0;pass", 12);
+            Check.run(x, "hour 0 0 3 = 1", "hour 0 0 5 = 1", "count 12 = 1", "count 4 = 12");
+            Check.orders(x, "pass times 2 if done<1;pass times 2 if done=1;pass if done=2", 3);
+            Check.run(x, "count 12 = 4");
+            Check.orders(x, "redeem 0 of 0;pawn 0 of 0;redeem 0 of 0 times 2", -3);
+            Check.run(x, "stopped = 2", "hour 0 0 5 = 4");
+        });
         Edge.of("each as often as TIMES tell (once without)", () -> {
             PawnedHours x = Check.withPeople(1);
             Check.orders(x, "pass", 1);

@@ -150,6 +150,20 @@ public final class YearsEdgesTest {
                 "redeem 5 11 = 28", "give 5 0 = 6", "pass = 4", "pawn 5 11 = 20", "back 0 = 0");
             Check.run(x, "hour 5 11 0 = 7", "hour 5 11 1 = 31", "hour 5 11 2 = 98", "count 11 = 5", "hour 0 0 6 = 25", "needs 7 0 = 0",
                 "bid 5 3 999 = 999", "hour 5 11 3 = 1", "hour 5 11 4 = 25", "hour 5 11 5 = 3", "of 5 0 = 34", "count 12 = 3", "count 3 = 6");
+            // Every hour of everybody: pawned then and held since, held then and pawned since.
+            PawnedHours y = Check.withPeople(6);
+            for (int place = 0; place < 72; place += 2) {
+                y.pawn(place / 12, place % 12);
+            }
+            Check.run(y, "image 1 = 0");
+            for (int place = 0; place < 72; place++) {
+                Check.due("what is lent or paid", place % 2 == 0 ? y.redeem(place / 12, place % 12) : y.pawn(place / 12, place % 12), 1);
+            }
+            Check.run(y, "back 1 = 0", "count 1 = 36");
+            for (int place = 0; place < 72; place++) {
+                Check.due("hour " + place % 12 + " of " + place / 12, y.hour(place / 12, place % 12, 3), 1 - place % 2);
+                Check.due("its loan", y.hour(place / 12, place % 12, 4), place % 2 == 0 ? 1 : -1);
+            }
         });
         Edge.of("what can be undone (nothing, behind back())", () -> {
             PawnedHours x = Check.withPeople(1);
